@@ -607,6 +607,16 @@ public final class ParishYards {
         }
     }
 
+    private static long longAt(long[] row, int place) {
+        return row != null && place >= 0 && place < row.length ? row[place] : 0L;
+    }
+
+    private static void putLong(long[] row, int place, long value) {
+        if (row != null && place >= 0 && place < row.length) {
+            row[place] = value;
+        }
+    }
+
     private static void copyRow(int[] from, int[] to) {
         if (from == null || to == null) {
             return;
@@ -1004,7 +1014,7 @@ public final class ParishYards {
         }
     }
 
-    /** What an inch of the lowest parish that can be reached is in each parish, as fractions. */
+    /** What an inch of the lowest parish that can be reached is in each parish, as fractions; 0 if not told yet. */
     private static final class Measures {
         private final long[] ups;
         private final long[] downs;
@@ -1028,24 +1038,26 @@ public final class ParishYards {
         }
 
         private boolean agrees(Tables tables, int a, int b) {
-            if (a < 0 || a >= ups.length || a >= downs.length
-                    || b < 0 || b >= ups.length || b >= downs.length) {
-                return false;
-            }
-            return ups[a] * tables.up(a, b) * downs[b] == ups[b] * downs[a] * tables.up(b, a);
+            return longAt(ups, a) * tables.up(a, b) * longAt(downs, b)
+                    == longAt(ups, b) * tables.up(b, a) * longAt(downs, a);
         }
 
         private void measure(Tables tables) {
-            for (int i = 0; i < PARISHES && i < ups.length; i++) {
-                ups[i] = 0L;
+            for (int i = 0; i < PARISHES; i++) {
+                putLong(ups, i, 0L);
+                putLong(downs, i, 0L);
             }
             for (int lowest = 0; lowest < PARISHES; lowest++) {
-                if (lowest < ups.length && lowest < downs.length && ups[lowest] == 0L) {
-                    ups[lowest] = 1L;
-                    downs[lowest] = 1L;
+                if (!isMeasured(lowest)) {
+                    putLong(ups, lowest, 1L);
+                    putLong(downs, lowest, 1L);
                     spread(tables);
                 }
             }
+        }
+
+        private boolean isMeasured(int parish) {
+            return longAt(ups, parish) > 0L;
         }
 
         /** One round a step: no parish is more than four steps away. */
@@ -1053,22 +1065,12 @@ public final class ParishYards {
             for (int round = 1; round < PARISHES; round++) {
                 for (int from = 0; from < PARISHES; from++) {
                     for (int to = 0; to < PARISHES; to++) {
-                        if (tables.has(from, to)) {
-                            pass(tables, from, to);
+                        if (tables.has(from, to) && isMeasured(from) && !isMeasured(to)) {
+                            putLong(ups, to, longAt(ups, from) * tables.up(from, to));
+                            putLong(downs, to, longAt(downs, from) * tables.up(to, from));
                         }
                     }
                 }
-            }
-        }
-
-        private void pass(Tables tables, int from, int to) {
-            if (from < 0 || from >= ups.length || from >= downs.length
-                    || to < 0 || to >= ups.length || to >= downs.length) {
-                return;
-            }
-            if (ups[from] > 0L && ups[to] == 0L) {
-                ups[to] = ups[from] * tables.up(from, to);
-                downs[to] = downs[from] * tables.up(to, from);
             }
         }
     }
