@@ -2,15 +2,7 @@ import java.util.ArrayList;
 import java.util.List;
 
 /** For each promise of the document its ordinary inputs, its edges and its wrong inputs, by hand. */
-public final class PromiseTests {
-    private static final Class<?> INDEX = IndexOutOfBoundsException.class;
-    private static final Class<?> ARGUMENT = IllegalArgumentException.class;
-    private static final Class<?> STATE = IllegalStateException.class;
-    private static final int LOW = Integer.MIN_VALUE;
-    private static final int HIGH = Integer.MAX_VALUE;
-
-    private static int wrong = 0;
-
+public final class PromiseTests extends Checks {
     private interface Test {
         void run();
     }
@@ -46,74 +38,11 @@ public final class PromiseTests {
         }
     }
 
-    private static void due(String call, long got, long want) {
-        if (got != want) {
-            wrong++;
-            System.out.println(call + " answered " + got + ", due is " + want);
-        }
-    }
-
     /** The call throws just this exception, and the state is as before. */
     private static void throwsDue(ParishYards x, Class<?> want, String call, Test test) {
         long before = x.digest();
-        Class<?> got = null;
-        try {
-            test.run();
-        } catch (RuntimeException e) {
-            got = e.getClass();
-        }
-        if (got != want) {
-            wrong++;
-            System.out.println(call + " threw " + got + ", due is " + want);
-        }
+        dueThrown(call, x, want, y -> test.run());
         due("the state after " + call, x.digest(), before);
-    }
-
-    private static ParishYards type(ParishYards x, String text) {
-        for (int i = 0; i < text.length(); i++) {
-            x.append(text.charAt(i));
-        }
-        return x;
-    }
-
-    /** Does a text, and tells parts done times 100, part of the stop times 10, and its reason. */
-    private static int told(ParishYards x, String text) {
-        int done = type(x, text).work();
-        return x.stopped(1) == -1 ? done * 100 : done * 100 + x.stopped(0) * 10 + x.stopped(1);
-    }
-
-    private static int firstErrorOf(String text) {
-        return type(new ParishYards(), text).firstError();
-    }
-
-    /** Five parishes with all ten tables, all of them 1 to 1: 37 rings. */
-    private static ParishYards allTables() {
-        ParishYards x = new ParishYards();
-        for (int a = 0; a < 5; a++) {
-            for (int b = a + 1; b < 5; b++) {
-                x.table(a, b, 1, 1);
-            }
-        }
-        return x;
-    }
-
-    /** Ring 012 with 10005 / 10004: it gains, but less than a ten-thousandth. */
-    private static ParishYards hairy() {
-        ParishYards x = new ParishYards();
-        x.table(0, 1, 5, 2);
-        x.table(1, 2, 23, 61);
-        x.table(2, 0, 87, 82);
-        return x;
-    }
-
-    /** Ring 012 with 98 / 99, which loses 102 of 10000, by setting 0. */
-    private static ParishYards losing() {
-        ParishYards x = new ParishYards();
-        x.set(0, 102);
-        x.table(0, 1, 1, 1);
-        x.table(1, 2, 1, 1);
-        x.table(2, 0, 98, 99);
-        return x;
     }
 
     private static void promise1() {
@@ -665,16 +594,6 @@ public final class PromiseTests {
         throwsDue(x, ARGUMENT, "ring(99, -1)", () -> x.ring(99, -1));
     }
 
-    /** Ring 012 with 21 / 20: a gain of 500. */
-    private static ParishYards wide() {
-        ParishYards x = new ParishYards();
-        x.set(0, 500);
-        x.table(0, 1, 99, 1);
-        x.table(1, 2, 1, 99);
-        x.table(2, 0, 21, 20);
-        return x;
-    }
-
     private static void promise19() {
         ParishYards x = new ParishYards();
         x.table(1, 2, 1, 3);
@@ -992,41 +911,6 @@ public final class PromiseTests {
         x.set(0, 101);
         due("one of three", Double.doubleToLongBits(x.trueShare()), Double.doubleToLongBits(1.0 / 3.0));
         due("rings", x.count(1) * 10 + x.count(2), 32);
-    }
-
-    /** The digest as the document tells it, out of the other answers. */
-    private static long digestOf(ParishYards x, String buffer) {
-        long hash = 3851;
-        for (int what = 0; what < 18; what++) {
-            hash = 31 * hash + x.count(what);
-        }
-        for (int pair : new int[] {1, 2, 3, 4, 12, 13, 14, 23, 24, 34}) {
-            int a = pair / 10;
-            int b = pair % 10;
-            for (int what = 0; what < 3; what++) {
-                hash = 31 * hash + x.tableOf(a, b, what);
-            }
-            hash = 31 * (31 * hash + x.mends(a, b, 0)) + x.mends(a, b, 1);
-            hash = 31 * hash + x.bestWay(a, b, 100);
-        }
-        for (int i = 0; x.ring(i, 0) != -1; i++) {
-            for (int what = 0; what < 4; what++) {
-                hash = 31 * hash + x.ring(i, what);
-            }
-        }
-        for (int i = 0; i < x.count(5); i++) {
-            for (int what = 0; what < 4; what++) {
-                hash = 31 * hash + x.boltOf(i, what);
-            }
-        }
-        hash = 31 * (31 * hash + x.stopped(0)) + x.stopped(1);
-        hash = 31 * (31 * hash + x.offBy(0, 1, 3, 2)) + x.turned(0, 1, 1000);
-        hash = 31 * hash + Double.doubleToLongBits(x.trueShare());
-        hash = 31 * hash + buffer.length();
-        for (int i = 0; i < buffer.length(); i++) {
-            hash = 31 * hash + buffer.charAt(i);
-        }
-        return hash;
     }
 
     private static void promise26() {
