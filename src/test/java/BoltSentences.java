@@ -1,15 +1,15 @@
 /** Tests by sentence: bolts, and promises 6 to 8: bolt, send, sell. */
 final class BoltSentences extends Checks {
 
-    /** Bolt 0 of a length in parish 0, and a table that turns it to more than 99999 or to just that. */
-    private static ParishYards longBolt(int length, int up, int down) {
+    /** Bolt 0 of a length in parish 0, and the table of 0 and 1. */
+    private static ParishYards boltAnd(int length, int up, int down) {
         ParishYards x = oneTable(up, down);
         x.bolt(0, length);
         return x;
     }
 
     private static int gainSent(int rounding, int length, int up, int down) {
-        ParishYards x = longBolt(length, up, down);
+        ParishYards x = boltAnd(length, up, down);
         x.set(1, rounding);
         x.send(0, 1);
         return x.boltOf(0, 2) - 1000000;
@@ -45,7 +45,7 @@ final class BoltSentences extends Checks {
 
         @Says(AT_MOST_8)
         static void aLengthCanComeDownTo0() {
-            ParishYards x = longBolt(1, 1, 99);
+            ParishYards x = boltAnd(1, 1, 99);
             due("1 by 1 / 99", x.send(0, 1), 0);
             due("its length", x.boltOf(0, 1), 0);
             due("0 by 99", x.send(0, 0), 0);
@@ -54,16 +54,16 @@ final class BoltSentences extends Checks {
 
         @Says(AT_MOST_8)
         static void aLengthCanComeUpTo99999AndNoFarther() {
-            ParishYards x = longBolt(2439, 41, 1);
+            ParishYards x = boltAnd(2439, 41, 1);
             due("99999", x.send(0, 1), 99999);
             due("its length", x.boltOf(0, 1), 99999);
             due("back again", x.send(0, 0), 2439);
-            refused(() -> longBolt(2000, 50, 1), STATE, "100000", y -> y.send(0, 1));
+            refused(() -> boltAnd(2000, 50, 1), STATE, "100000", y -> y.send(0, 1));
         }
 
         @Says(AT_MOST_8)
         static void whatWasGainedIsInThousandths() {
-            ParishYards x = longBolt(1, 1, 2);
+            ParishYards x = boltAnd(1, 1, 2);
             due("at first", x.boltOf(0, 2), 1000000);
             x.send(0, 1);
             due("half an inch", x.boltOf(0, 2), 1000500);
@@ -76,7 +76,7 @@ final class BoltSentences extends Checks {
             due("5/2", oneTable(1, 2).turned(0, 1, 5), 3);
             due("49/98", oneTable(49, 98).turned(0, 1, 1), 1);
             due("99999/2", oneTable(1, 2).turned(0, 1, 99999), 50000);
-            ParishYards x = longBolt(5, 1, 2);
+            ParishYards x = boltAnd(5, 1, 2);
             due("a bolt of 5/2", x.send(0, 1), 3);
         }
 
@@ -92,13 +92,14 @@ final class BoltSentences extends Checks {
 
         @Says(TURNED)
         static void withSetting1As1AllIsRoundedDown() {
-            int[][] told = {{1, 2, 1, 0}, {98, 99, 1, 0}, {99, 99, 1, 1}, {98, 99, 2, 1}, {1, 2, 3, 1}, {3, 2, 99999, 149998}};
+            int[][] told = {{1, 2, 1, 0}, {98, 99, 1, 0}, {99, 99, 1, 1}, {98, 99, 2, 1}, {1, 2, 3, 1},
+                {3, 2, 99999, 149998}};
             for (int[] one : told) {
                 ParishYards x = oneTable(one[0], one[1]);
                 x.set(1, 1);
                 due(one[2] + " by " + one[0] + " / " + one[1], x.turned(0, 1, one[2]), one[3]);
             }
-            ParishYards x = longBolt(5, 1, 2);
+            ParishYards x = boltAnd(5, 1, 2);
             x.set(1, 1);
             due("a bolt of 5/2", x.send(0, 1), 2);
         }
@@ -115,7 +116,7 @@ final class BoltSentences extends Checks {
             due("50/99 to 1: 494.9", gainSent(0, 1, 50, 99), 494);
             due("2/3 to 1: 333.3", gainSent(0, 2, 1, 3), 333);
             due("1/2 to 1: just 500", gainSent(0, 1, 1, 2), 500);
-            due("998/999 has a gain below 2 thousandths: 97/98 to 1", gainSent(0, 1, 97, 98), 10);
+            due("97/98 to 1: 10.2", gainSent(0, 1, 97, 98), 10);
         }
 
         @Says(GAINED)
@@ -162,19 +163,19 @@ final class BoltSentences extends Checks {
 
         @Says(CANNOT)
         static void whereItLiesItIsNotSentForReason1() {
-            due("where it came", reason(longBolt(7, 1, 1), 0), 1);
+            due("where it came", reason(boltAnd(7, 1, 1), 0), 1);
             due("where it came, without any table to another parish", reason(eightBolts(), 0), 1);
-            ParishYards x = longBolt(7, 1, 1);
+            ParishYards x = boltAnd(7, 1, 1);
             x.send(0, 1);
             due("where it was sent", reason(x, 1), 1);
-            refused(() -> longBolt(7, 1, 1), STATE, "send(0, 0)", y -> y.send(0, 0));
+            refused(() -> boltAnd(7, 1, 1), STATE, "send(0, 0)", y -> y.send(0, 0));
         }
 
         @Says(CANNOT)
         static void withoutATableItIsNotSentForReason2() {
-            due("no table", reason(longBolt(7, 1, 1), 2), 2);
+            due("no table", reason(boltAnd(7, 1, 1), 2), 2);
             due("no table from there, but others to it", reason(without01(), 1), 2);
-            refused(BoltSentences.Bolts::without01, STATE, "send(0, 1)", x -> x.send(0, 1));
+            refused(Bolts::without01, STATE, "send(0, 1)", x -> x.send(0, 1));
         }
 
         /** All tables but that of 0 and 1, and bolt 0 in parish 0. */
@@ -187,18 +188,18 @@ final class BoltSentences extends Checks {
 
         @Says(CANNOT)
         static void above99999ItIsNotSentForReason3() {
-            due("100000", reason(longBolt(2000, 50, 1), 1), 3);
-            due("99999.57", reason(longBolt(9589, 73, 7), 1), 3);
-            due("9999 times 99", reason(longBolt(9999, 99, 1), 1), 3);
-            refused(() -> longBolt(2000, 50, 1), STATE, "100000", x -> x.send(0, 1));
-            refused(() -> longBolt(9589, 73, 7), STATE, "99999.57", x -> x.send(0, 1));
+            due("100000", reason(boltAnd(2000, 50, 1), 1), 3);
+            due("99999.57", reason(boltAnd(9589, 73, 7), 1), 3);
+            due("9999 times 99", reason(boltAnd(9999, 99, 1), 1), 3);
+            refused(() -> boltAnd(2000, 50, 1), STATE, "100000", x -> x.send(0, 1));
+            refused(() -> boltAnd(9589, 73, 7), STATE, "99999.57", x -> x.send(0, 1));
         }
 
         @Says(CANNOT)
         static void upTo99999ItIsSent() {
-            due("99999", reason(longBolt(2439, 41, 1), 1), 0);
-            due("99999.375", reason(longBolt(8421, 95, 8), 1), 0);
-            ParishYards x = longBolt(9589, 73, 7);
+            due("99999", reason(boltAnd(2439, 41, 1), 1), 0);
+            due("99999.375", reason(boltAnd(8421, 95, 8), 1), 0);
+            ParishYards x = boltAnd(9589, 73, 7);
             x.set(1, 1);
             due("99999.57 rounded down", reason(x, 1), 0);
             due("its length", x.boltOf(0, 1), 99999);
@@ -206,7 +207,7 @@ final class BoltSentences extends Checks {
 
         @Says(CANNOT)
         static void theFirstReasonThatAppliesIsTold() {
-            ParishYards x = longBolt(2439, 41, 1);
+            ParishYards x = boltAnd(2439, 41, 1);
             x.send(0, 1);
             due("it lies there, with a length that no table would turn", reason(x, 1), 1);
             due("there is no table, with such a length", reason(x, 3), 2);
@@ -232,7 +233,7 @@ final class BoltSentences extends Checks {
 
         @Says("Lets a bolt come. Undoable.")
         static void aBoltThatComesInPlaceOfOneThatWentHasNothingOfIt() {
-            ParishYards x = longBolt(1, 1, 2);
+            ParishYards x = boltAnd(1, 1, 2);
             x.send(0, 1);
             x.sell(0);
             x.bolt(4, 6);
@@ -298,7 +299,7 @@ final class BoltSentences extends Checks {
     static final class Send {
         @Says("Sends a bolt. Undoable.")
         static void aBoltLiesThereThenAndNoOtherOneIsSent() {
-            ParishYards x = longBolt(8, 3, 2);
+            ParishYards x = boltAnd(8, 3, 2);
             x.bolt(0, 9);
             x.send(0, 1);
             due("parish", x.boltOf(0, 0), 1);
@@ -337,10 +338,10 @@ final class BoltSentences extends Checks {
 
         @Says("Returns its length then.")
         static void itsLengthThenIsTold() {
-            due("7.5", longBolt(5, 3, 2).send(0, 1), 8);
-            due("0.01", longBolt(1, 1, 99).send(0, 1), 0);
-            due("99999", longBolt(2439, 41, 1).send(0, 1), 99999);
-            due("9999 by 1 / 1", longBolt(9999, 1, 1).send(0, 1), 9999);
+            due("7.5", boltAnd(5, 3, 2).send(0, 1), 8);
+            due("0.01", boltAnd(1, 1, 99).send(0, 1), 0);
+            due("99999", boltAnd(2439, 41, 1).send(0, 1), 99999);
+            due("9999 by 1 / 1", boltAnd(9999, 1, 1).send(0, 1), 9999);
         }
 
         @Says("Throws `IndexOutOfBoundsException` if there is no such bolt or parish")
@@ -356,7 +357,7 @@ final class BoltSentences extends Checks {
 
         @Says("Throws `IndexOutOfBoundsException` if there is no such bolt or parish")
         static void aBoltThatWasSoldIsNoLongerThere() {
-            ParishYards x = longBolt(5, 1, 1);
+            ParishYards x = boltAnd(5, 1, 1);
             x.sell(0);
             dueThrown("send(0, 1)", x, INDEX, y -> y.send(0, 1));
         }
@@ -365,8 +366,8 @@ final class BoltSentences extends Checks {
         static void itCannotBeSent() {
             refused(Checks::busy, STATE, "where it lies", x -> x.send(0, 4));
             refused(Checks::busy, STATE, "without a table", x -> x.send(0, 0));
-            refused(() -> longBolt(2000, 50, 1), STATE, "100000", x -> x.send(0, 1));
-            ParishYards x = longBolt(7, 1, 1);
+            refused(() -> boltAnd(2000, 50, 1), STATE, "100000", x -> x.send(0, 1));
+            ParishYards x = boltAnd(7, 1, 1);
             x.drop(1, 0);
             dueThrown("when its table was dropped", x, STATE, y -> y.send(0, 1));
         }
@@ -394,7 +395,7 @@ final class BoltSentences extends Checks {
 
         @Says(SELLS)
         static void whatThoseBehindItGainedStaysTheirs() {
-            ParishYards x = longBolt(4, 1, 2);
+            ParishYards x = boltAnd(4, 1, 2);
             x.bolt(0, 1);
             x.send(1, 1);
             x.sell(0);
@@ -435,7 +436,7 @@ final class BoltSentences extends Checks {
 
         @Says("Returns how many whole yardsticks of its parish it was long.")
         static void itIsTheStickOfTheParishWhereItLiesThen() {
-            ParishYards x = longBolt(60, 2, 1);
+            ParishYards x = boltAnd(60, 2, 1);
             x.stick(0, 60);
             x.stick(1, 20);
             x.send(0, 1);
@@ -447,10 +448,10 @@ final class BoltSentences extends Checks {
 
         @Says("Returns how many whole yardsticks of its parish it was long.")
         static void aBoltOf99999OrOf0HasYardsticks() {
-            ParishYards x = longBolt(2439, 41, 1);
+            ParishYards x = boltAnd(2439, 41, 1);
             x.send(0, 1);
             due("99999 by 36", x.sell(0), 2777);
-            ParishYards y = longBolt(1, 1, 99);
+            ParishYards y = boltAnd(1, 1, 99);
             y.send(0, 1);
             due("0 by 36", y.sell(0), 0);
         }

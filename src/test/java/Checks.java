@@ -135,6 +135,14 @@ abstract class Checks {
         }
     }
 
+    /** With each parish that there is the call is refused. */
+    static void refusedForEachParish(Maker made, Class<?> want, String call, Open open) {
+        for (int parish = 0; parish < 5; parish++) {
+            int one = parish;
+            refused(made, want, call + " with " + parish, x -> open.on(x, one));
+        }
+    }
+
     // ---- texts
 
     static ParishYards type(ParishYards x, String text) {
@@ -170,6 +178,47 @@ abstract class Checks {
             }
         }
         return x;
+    }
+
+    /** The ten pairs of parishes, each told as a number. */
+    static final int[] PAIRS = {1, 2, 3, 4, 12, 13, 14, 23, 24, 34};
+
+    /** Those of the ten tables whose bit is in the set, each 1 to 1. */
+    static ParishYards setOfTables(int set) {
+        ParishYards x = new ParishYards();
+        for (int i = 0; i < PAIRS.length; i++) {
+            if ((set >> i & 1) == 1) {
+                x.table(PAIRS[i] / 10, PAIRS[i] % 10, 1, 1);
+            }
+        }
+        return x;
+    }
+
+    static boolean isInSet(int set, int a, int b) {
+        for (int i = 0; i < PAIRS.length; i++) {
+            if (PAIRS[i] == Math.min(a, b) * 10 + Math.max(a, b)) {
+                return (set >> i & 1) == 1;
+            }
+        }
+        return false;
+    }
+
+    static boolean isAmong(int parish, int[] stops, int size) {
+        for (int i = 0; i < size; i++) {
+            if (stops[i] == parish) {
+                return true;
+            }
+        }
+        return false;
+    }
+
+    /** Parishes as a number, as ring() tells them with 1. */
+    static int number(int[] stops) {
+        int number = 0;
+        for (int stop : stops) {
+            number = number * 10 + stop;
+        }
+        return number;
     }
 
     /** The tables 01, 12, 23, 34: each 1 to 1, and no ring. */
@@ -266,7 +315,7 @@ abstract class Checks {
         for (int what = 0; what < 18; what++) {
             hash = 31 * hash + x.count(what);
         }
-        for (int pair : new int[] {1, 2, 3, 4, 12, 13, 14, 23, 24, 34}) {
+        for (int pair : PAIRS) {
             int a = pair / 10;
             int b = pair % 10;
             for (int what = 0; what < 3; what++) {

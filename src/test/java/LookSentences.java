@@ -81,10 +81,8 @@ final class LookSentences extends Checks {
 
         @Says("Throws `IllegalArgumentException` if both are the same, or what is not 0 to 2")
         static void bothTheSameOrWhatOutOfRange() {
-            for (int parish = 0; parish < 5; parish++) {
-                int same = parish;
-                refused(Checks::busy, ARGUMENT, "tableOf of " + same + " and itself", x -> x.tableOf(same, same, 0));
-            }
+            refusedForEachParish(Checks::busy, ARGUMENT, "tableOf of _ and itself",
+                    (x, v) -> x.tableOf(v, v, 0));
             refused(Checks::busy, ARGUMENT, "tableOf(0, 1, -1)", x -> x.tableOf(0, 1, -1));
             refused(Checks::busy, ARGUMENT, "tableOf(0, 1, 3)", x -> x.tableOf(0, 1, 3));
             refused(Checks::busy, ARGUMENT, "tableOf(0, 4, 3), without a table", x -> x.tableOf(0, 4, 3));

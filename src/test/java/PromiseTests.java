@@ -749,7 +749,6 @@ public final class PromiseTests extends Checks {
         bySigns();
         bySteps();
         byNumbers();
-        eachWay(new int[5], 0);
         throwsDue(x, INDEX, "bestWay(5, 0, 1)", () -> x.bestWay(5, 0, 1));
         throwsDue(x, INDEX, "bestWay(5, 5, -1)", () -> x.bestWay(5, 5, -1));
         throwsDue(x, ARGUMENT, "bestWay(0, 0, 1)", () -> x.bestWay(0, 0, 1));
@@ -814,30 +813,6 @@ public final class PromiseTests extends Checks {
         due("0 1 2 4 before 0 1 3 4", x.bestWay(0, 4, 5), 100124);
         x.table(2, 4, 50, 51);
         due("0 1 3 4 keeps better", x.bestWay(0, 4, 5), 100134);
-    }
-
-    /** Each way that there can be, by an object that has just its tables. */
-    private static void eachWay(int[] stops, int size) {
-        if (size >= 2) {
-            ParishYards x = new ParishYards();
-            int number = stops[0];
-            for (int i = 1; i < size; i++) {
-                x.table(stops[i - 1], stops[i], 1, 1);
-                number = number * 10 + stops[i];
-            }
-            due("the only way", x.bestWay(stops[0], stops[size - 1], 5), 100000 + number);
-            due("mends by it", x.mends(stops[0], stops[size - 1], 0), size == 2 ? -1 : 1);
-        }
-        for (int next = 0; next < 5 && size < 5; next++) {
-            boolean isNew = true;
-            for (int i = 0; i < size; i++) {
-                isNew = isNew && stops[i] != next;
-            }
-            if (isNew) {
-                stops[size] = next;
-                eachWay(stops, size + 1);
-            }
-        }
     }
 
     private static void promise24() {

@@ -100,6 +100,15 @@ public final class RulesTests {
                 due(method + " is not private", Modifier.isPrivate(method.getModifiers()));
             }
         }
+        for (Class<?> inside : ParishYards.class.getDeclaredClasses()) {
+            due(inside + " is not static, or open", Modifier.isStatic(inside.getModifiers())
+                    && !Modifier.isPublic(inside.getModifiers()) && !Modifier.isProtected(inside.getModifiers()));
+            for (Method method : inside.getDeclaredMethods()) {
+                if (Modifier.isPrivate(method.getModifiers())) {
+                    privateNames.add(method.getName());
+                }
+            }
+        }
         Collections.sort(calls);
         due("the face is " + calls, calls.equals(List.of(FACE)));
         privateNames.retainAll(publicNames);

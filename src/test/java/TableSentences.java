@@ -76,11 +76,7 @@ final class TableSentences extends Checks {
                 due("the ring told", x.ring(0, 1), lowestNumber(stops, size));
             }
             for (int next = 0; next < 5 && size < 5; next++) {
-                boolean isNew = true;
-                for (int i = 0; i < size; i++) {
-                    isNew = isNew && stops[i] != next;
-                }
-                if (isNew) {
+                if (!isAmong(next, stops, size)) {
                     stops[size] = next;
                     eachRing(stops, size + 1);
                 }
@@ -137,6 +133,41 @@ final class TableSentences extends Checks {
                 places++;
             }
             due("rings of all tables", places, 37);
+        }
+
+        @Says(ORDER)
+        static void eachSetOfTablesHasItsRingsInOrder() {
+            for (int set = 0; set < 1024; set++) {
+                List<Integer> found = new ArrayList<>();
+                for (int size = 3; size <= 5; size++) {
+                    for (int first = 0; first < 5; first++) {
+                        int[] stops = new int[size];
+                        stops[0] = first;
+                        closeRings(set, stops, 1, found);
+                    }
+                }
+                ParishYards x = setOfTables(set);
+                due("rings of set " + set, x.count(1), found.size());
+                for (int i = 0; i < found.size(); i++) {
+                    due("ring " + i + " of set " + set, x.ring(i, 1), found.get(i));
+                }
+            }
+        }
+
+        /** Finds the rings that go on so, the lowest next parish first. */
+        private static void closeRings(int set, int[] stops, int size, List<Integer> found) {
+            if (size == stops.length) {
+                if (stops[1] < stops[size - 1] && isInSet(set, stops[size - 1], stops[0])) {
+                    found.add(number(stops));
+                }
+                return;
+            }
+            for (int next = stops[0] + 1; next < 5; next++) {
+                if (!isAmong(next, stops, size) && isInSet(set, stops[size - 1], next)) {
+                    stops[size] = next;
+                    closeRings(set, stops, size + 1, found);
+                }
+            }
         }
 
         @Says(PRODUCT)
@@ -334,6 +365,21 @@ final class TableSentences extends Checks {
         }
 
         @Says(SECOND)
+        static void bothAgreeForEachSetOfTablesWithAnOddOne() {
+            for (int set = 0; set < 1024; set++) {
+                for (int odd = 0; odd < 10; odd++) {
+                    if ((set >> odd & 1) == 1) {
+                        ParishYards x = setOfTables(set);
+                        int inRings = x.tableOf(PAIRS[odd] / 10, PAIRS[odd] % 10, 2);
+                        x.set(0, 500);
+                        x.table(PAIRS[odd] / 10, PAIRS[odd] % 10, 51, 50);
+                        dueSound("set " + set + " with 51 / 50 of pair " + PAIRS[odd], x, inRings == 0 ? 1 : 0);
+                    }
+                }
+            }
+        }
+
+        @Says(SECOND)
         static void bothAgreeForEachRingThatGains() {
             List<ParishYards> all = new ArrayList<>();
             all.add(closed(0, 1, 2));
@@ -520,10 +566,8 @@ final class TableSentences extends Checks {
 
         @Says(SAME)
         static void bothAreTheSame() {
-            for (int parish = 0; parish < 5; parish++) {
-                int same = parish;
-                refused(Checks::busy, ARGUMENT, "a table of " + same + " and itself", x -> x.table(same, same, 1, 1));
-            }
+            refusedForEachParish(Checks::busy, ARGUMENT, "a table of _ and itself",
+                    (x, v) -> x.table(v, v, 1, 1));
         }
 
         @Says(SAME)
@@ -650,10 +694,8 @@ final class TableSentences extends Checks {
 
         @Says("Throws `IllegalStateException` if there is no table")
         static void ofAParishAndItselfThereIsNoTable() {
-            for (int parish = 0; parish < 5; parish++) {
-                int same = parish;
-                refused(Checks::allTables, STATE, "drop of " + same + " and itself", x -> x.drop(same, same));
-            }
+            refusedForEachParish(Checks::allTables, STATE, "drop of _ and itself",
+                    (x, v) -> x.drop(v, v));
         }
     }
 

@@ -196,7 +196,10 @@ final class TextSentences extends Checks {
 
         @Says(ZERO)
         static void aNumberThatStartsWith0IsASyntaxError() {
-            for (String text : new String[] {"0>1=0", "0>1=5/0", "b0=0", "00", "0>00", "-00", "-0>00", "b00", "s00", "s0>00"}) {
+            String[] texts = {
+                "0>1=0", "0>1=5/0", "b0=0", "00", "0>00", "-00", "-0>00", "b00", "s00", "s0>00"
+            };
+            for (String text : texts) {
                 due("firstError of " + text, firstErrorOf(text), text.length() - 1);
                 due("firstError of " + text + "1", firstErrorOf(text + "1"), text.length() - 1);
             }
@@ -439,12 +442,14 @@ final class TextSentences extends Checks {
             due("one of two", type(new ParishYards(), "b0=1;s0>0").work(), 1);
             due("all of two", type(new ParishYards(), "b0=1;b0=1").work(), 2);
             due("eight of nine", type(new ParishYards(), "b0=1;b0=1;b0=1;b0=1;b0=1;b0=1;b0=1;b0=1;b0=1").work(), 8);
-            due("as many as there can be", type(oneTable(1, 1), "b0=1;s0>1;s0>0;s0>1;s0>0;s0>1;s0>0;s0>1;s0>0;s0>1;s0>0;s0>1").work(), 12);
+            String most = "b0=1" + ";s0>1;s0>0".repeat(5) + ";s0>1";
+            due("as many as there can be", type(oneTable(1, 1), most).work(), 12);
         }
 
         @Says(COMPLETE)
         static void notCompleteWorksAreRefused() {
-            for (String text : new String[] {"", "b0=1;", "b0=", "0>1=5/", "s0>", "-", "x", "b0=1x", "b0=1;;b0=1", ";b0=1"}) {
+            String[] texts = {"", "b0=1;", "b0=", "0>1=5/", "s0>", "-", "x", "b0=1x", "b0=1;;b0=1", ";b0=1"};
+            for (String text : texts) {
                 refused(() -> type(new ParishYards(), text), ARGUMENT, "work of " + text, ParishYards::work);
             }
         }
@@ -500,7 +505,7 @@ final class TextSentences extends Checks {
             due("part 1", told(new ParishYards(), "b0=1;-0>1;b0=1") % 100, 16);
             due("part 2", told(new ParishYards(), "b0=1;b0=1;-0>1") % 100, 26);
             ParishYards x = oneTable(1, 1);
-            type(x, "b0=1;s0>1;s0>0;s0>1;s0>0;s0>1;s0>0;s0>1;s0>0;s0>1;s0>0;s0>0").work();
+            type(x, "b0=1" + ";s0>1;s0>0".repeat(5) + ";s0>0").work();
             due("part 11", x.stopped(0), 11);
         }
 

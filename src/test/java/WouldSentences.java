@@ -1,6 +1,38 @@
 /** Tests by sentence: promises 21 to 26: offBy, turned, bestWay, mends, trueShare, digest. */
 final class WouldSentences extends Checks {
 
+    /**
+     * The way of the fewest steps, but at least so many, and of several that of the lowest numbers, where there
+     * are the tables of a set; null if there is none.
+     */
+    private static int[] firstWay(int set, int from, int to, int leastSteps) {
+        for (int steps = leastSteps; steps <= 4; steps++) {
+            int[] way = new int[steps + 1];
+            way[0] = from;
+            if (goesOn(set, way, 1, to)) {
+                return way;
+            }
+        }
+        return null;
+    }
+
+    /** Goes on with a way whose first parishes are there, the lowest next parish first, up to its end. */
+    private static boolean goesOn(int set, int[] way, int size, int to) {
+        if (size == way.length) {
+            return way[size - 1] == to;
+        }
+        for (int next = 0; next < 5; next++) {
+            boolean isEnd = next == to;
+            if (isEnd == (size == way.length - 1) && !isAmong(next, way, size) && isInSet(set, way[size - 1], next)) {
+                way[size] = next;
+                if (goesOn(set, way, size + 1, to)) {
+                    return true;
+                }
+            }
+        }
+        return false;
+    }
+
     @Section("Promise 21: offBy")
     static final class OffBy {
         private static final String TELLS = "Tells which ring would be off by a table.";
@@ -133,10 +165,8 @@ final class WouldSentences extends Checks {
 
         @Says(SAME)
         static void bothAreTheSame() {
-            for (int parish = 0; parish < 5; parish++) {
-                int same = parish;
-                refused(Checks::busy, ARGUMENT, "offBy of " + same + " and itself", x -> x.offBy(same, same, 1, 1));
-            }
+            refusedForEachParish(Checks::busy, ARGUMENT, "offBy of _ and itself",
+                    (x, v) -> x.offBy(v, v, 1, 1));
         }
 
         @Says(SAME)
@@ -204,10 +234,8 @@ final class WouldSentences extends Checks {
 
         @Says("Throws `IllegalArgumentException` if both are the same, or length is out of range")
         static void bothTheSameOrLengthOutOfRange() {
-            for (int parish = 0; parish < 5; parish++) {
-                int same = parish;
-                refused(Checks::busy, ARGUMENT, "turned of " + same + " and itself", x -> x.turned(same, same, 1));
-            }
+            refusedForEachParish(Checks::busy, ARGUMENT, "turned of _ and itself",
+                    (x, v) -> x.turned(v, v, 1));
             refused(Checks::busy, ARGUMENT, "turned(0, 1, -1)", x -> x.turned(0, 1, -1));
             refused(Checks::busy, ARGUMENT, "turned(0, 1, 100000)", x -> x.turned(0, 1, 100000));
             refused(Checks::busy, ARGUMENT, "turned(0, 4, 100000), without a table", x -> x.turned(0, 4, 100000));
@@ -356,6 +384,46 @@ final class WouldSentences extends Checks {
             due("from the other end", x.bestWay(1, 0, 100), 100120);
         }
 
+        @Says(FINDS)
+        static void eachWayThatThereCanBeIsFound() {
+            eachWay(new int[5], 0);
+        }
+
+        /** Puts parishes behind those of a way, each time another one, and looks for it where it is the only one. */
+        private static void eachWay(int[] stops, int size) {
+            if (size >= 2) {
+                ParishYards x = new ParishYards();
+                int number = stops[0];
+                for (int i = 1; i < size; i++) {
+                    x.table(stops[i - 1], stops[i], 1, 1);
+                    number = number * 10 + stops[i];
+                }
+                due("the only way", x.bestWay(stops[0], stops[size - 1], 5), 100000 + number);
+            }
+            for (int next = 0; next < 5 && size < 5; next++) {
+                if (!isAmong(next, stops, size)) {
+                    stops[size] = next;
+                    eachWay(stops, size + 1);
+                }
+            }
+        }
+
+        @Says(FINDS)
+        static void ofEachSetOfTablesTheFirstWayInOrderIsFound() {
+            for (int set = 0; set < 1024; set++) {
+                ParishYards x = setOfTables(set);
+                for (int from = 0; from < 5; from++) {
+                    for (int to = 0; to < 5; to++) {
+                        if (from != to) {
+                            int[] way = firstWay(set, from, to, 1);
+                            int want = way == null ? NONE : 100000 + number(way);
+                            due("bestWay(" + from + ", " + to + ", 7) with set " + set, x.bestWay(from, to, 7), want);
+                        }
+                    }
+                }
+            }
+        }
+
         @Says("- `from`: 0 to 4")
         static void fromIs0To4() {
             bounds(Checks::busy, INDEX, "bestWay(_, .., 9)", (x, v) -> x.bestWay(v, other(v), 9), 0, 4);
@@ -401,10 +469,8 @@ final class WouldSentences extends Checks {
 
         @Says("Throws `IllegalArgumentException` if both are the same, or length is out of range")
         static void bothTheSameOrLengthOutOfRange() {
-            for (int parish = 0; parish < 5; parish++) {
-                int same = parish;
-                refused(Checks::busy, ARGUMENT, "bestWay of " + same + " and itself", x -> x.bestWay(same, same, 1));
-            }
+            refusedForEachParish(Checks::busy, ARGUMENT, "bestWay of _ and itself",
+                    (x, v) -> x.bestWay(v, v, 1));
             refused(Checks::busy, ARGUMENT, "bestWay(0, 1, -1)", x -> x.bestWay(0, 1, -1));
             refused(Checks::busy, ARGUMENT, "bestWay(0, 1, 10000)", x -> x.bestWay(0, 1, 10000));
             refused(Checks::busy, ARGUMENT, "bestWay(0, 4, 10000), without a way", x -> x.bestWay(0, 4, 10000));
@@ -476,6 +542,41 @@ final class WouldSentences extends Checks {
             y.table(0, 1, 1, 1);
             y.table(1, 3, 1, 1);
             due("0 1 3 4", fraction(y, 0, 4), 101);
+        }
+
+        @Says(FINDS)
+        static void ofEachSetOfTablesTheFirstWayInOrderMends() {
+            for (int set = 0; set < 1024; set++) {
+                for (int odd = 0; odd < 10; odd++) {
+                    if ((set >> odd & 1) == 1) {
+                        dueMends(set, PAIRS[odd] / 10, PAIRS[odd] % 10);
+                    }
+                }
+            }
+        }
+
+        /** All tables of a set are 1 to 1 but for an odd one, so that a product tells if the way has it. */
+        private static void dueMends(int set, int a, int b) {
+            ParishYards x = setOfTables(set);
+            x.set(0, 500);
+            x.table(a, b, 51, 50);
+            for (int from = 0; from < 5; from++) {
+                for (int to = 0; to < 5; to++) {
+                    if (from != to) {
+                        int[] way = firstWay(set, from, to, 2);
+                        int want = way == null ? NONE : goes(way, a, b) ? 5150 : goes(way, b, a) ? 5051 : 101;
+                        due("mends " + from + " " + to + " with set " + set, fraction(x, from, to), want);
+                    }
+                }
+            }
+        }
+
+        private static boolean goes(int[] way, int a, int b) {
+            boolean found = false;
+            for (int i = 1; i < way.length; i++) {
+                found = found || way[i - 1] == a && way[i] == b;
+            }
+            return found;
         }
 
         @Says(FINDS)
@@ -566,10 +667,8 @@ final class WouldSentences extends Checks {
 
         @Says("Throws `IllegalArgumentException` if both are the same, or what is neither 0 nor 1")
         static void bothTheSameOrWhatOutOfRange() {
-            for (int parish = 0; parish < 5; parish++) {
-                int same = parish;
-                refused(Checks::busy, ARGUMENT, "mends of " + same + " and itself", x -> x.mends(same, same, 0));
-            }
+            refusedForEachParish(Checks::busy, ARGUMENT, "mends of _ and itself",
+                    (x, v) -> x.mends(v, v, 0));
             refused(Checks::busy, ARGUMENT, "mends(0, 1, -1)", x -> x.mends(0, 1, -1));
             refused(Checks::busy, ARGUMENT, "mends(0, 1, 2)", x -> x.mends(0, 1, 2));
             refused(Checks::busy, ARGUMENT, "mends(0, 4, 2), without a way", x -> x.mends(0, 4, 2));
