@@ -340,6 +340,18 @@ final class WouldSentences extends Checks {
         }
 
         @Says(FINDS)
+        static void lengthsAboveAnIntDoNotWrapAround() {
+            ParishYards x = new ParishYards();
+            x.set(0, 500);
+            x.table(0, 1, 99, 1);
+            x.table(1, 2, 99, 1);
+            x.table(2, 4, 99, 4);
+            x.table(1, 3, 98, 1);
+            x.table(3, 4, 25, 1);
+            due("2425262350.5 gains 500; just 2425014900", x.bestWay(0, 4, 9998), 100134);
+        }
+
+        @Says(FINDS)
         static void ofSeveralThatOfTheFewestSteps() {
             ParishYards x = new ParishYards();
             x.table(0, 1, 1, 1);
@@ -643,6 +655,20 @@ final class WouldSentences extends Checks {
             due("down 1 of 100", x.mends(0, 2, 1), NONE);
             due("up 1 of 1 / 100", x.mends(2, 0, 0), NONE);
             due("down 100", x.mends(2, 0, 1), NONE);
+        }
+
+        @Says(NUMBER)
+        static void ifTheFirstWayIsAbove99NoOtherWayIsTaken() {
+            ParishYards x = new ParishYards();
+            x.set(0, 500);
+            x.table(0, 1, 50, 49);
+            x.table(1, 4, 50, 49);
+            due("2500 / 2401", fraction(x, 0, 4), NONE);
+            x.table(0, 2, 1, 1);
+            x.table(2, 4, 1, 1);
+            due("2500 / 2401 before 1 / 1", fraction(x, 0, 4), NONE);
+            x.drop(1, 4);
+            due("1 / 1 alone", fraction(x, 0, 4), 101);
         }
 
         @Says(NUMBER)
