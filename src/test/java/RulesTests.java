@@ -54,7 +54,15 @@ public final class RulesTests {
 
     public static void main(String[] args) throws Exception {
         face();
-        source(Files.readString(Path.of(args[0])));
+        fields(ParishYards.class);
+        for (Class<?> inside : ParishYards.class.getDeclaredClasses()) {
+            fields(inside);
+        }
+        String text = Files.readString(Path.of(args[0]));
+        String code = text.replaceAll("(?s)/\\*.*?\\*/", "").replaceAll("//[^\n]*", "");
+        due("signs 1 to 127 alone", text.chars().allMatch(c -> c > 0 && c < 128));
+        source(code);
+        members(code);
         System.out.println("RulesTests: " + passed + " passed, " + failed + " failed");
         if (failed != 0) {
             System.exit(1);
@@ -123,19 +131,70 @@ public final class RulesTests {
         due("some twelve classes", ParishYards.class.getDeclaredClasses().length <= 11);
     }
 
-    private static void source(String text) {
-        String code = text.replaceAll("(?s)/\\*.*?\\*/", "").replaceAll("//[^\n]*", "");
+    /** Rules 5 and 11: what is static is a constant, and a class has some twenty fields beside these. */
+    private static void fields(Class<?> part) {
+        int own = 0;
+        for (Field field : part.getDeclaredFields()) {
+            if (Modifier.isStatic(field.getModifiers())) {
+                due(field + " is no constant", Modifier.isFinal(field.getModifiers())
+                        && List.of("int", "long", "int[]").contains(field.getType().getSimpleName()));
+            } else {
+                own++;
+            }
+        }
+        due(part + " has " + own + " fields", own <= 20);
+    }
+
+    private static void source(String code) {
+        String bare = code.replaceAll("\"[^\"\n]*\"|'[^'\n]+'", "");
         for (String banned : BANNED) {
-            Matcher matcher = Pattern.compile(banned).matcher(code.replaceAll("\"[^\"\n]*\"|'[^'\n]+'", ""));
-            due("the source has " + banned, !matcher.find());
+            due("the source has " + banned, !Pattern.compile(banned).matcher(bare).find());
         }
-        due("signs 1 to 127 alone", text.chars().allMatch(c -> c < 128));
-        Matcher index = Pattern.compile("\\w+\\[[^\\]]+\\](?! *\\{)").matcher(code);
-        while (index.find()) {
-            boolean known = index.group().startsWith("int[") || index.group().startsWith("long[")
-                    || index.group().startsWith("Yards[") || index.group().matches("row\\[place\\]|(to|from)\\[i\\]"
-                    + "|ups\\[place\\]|saved\\[.*\\]");
-            due("an index outside of at() and put(): " + index.group(), known);
+        known("an index outside of at() and put()", bare, "\\w+\\[[^\\]]+\\](?! *\\{)", "(int|long|Yards)\\[.*\\]"
+                + "|row\\[place\\]|(to|from)\\[i\\]|ups\\[place\\]|saved\\[.*\\]");
+        known("a divisor that is not known", bare, "[/%]=? *[^;]*", "[/%] 10\\)*|/ inches : 0|/ \\(double\\) all|/ down"
+                + "|/ \\(2L \\* down\\)|/ divisor|% b");
+        known("a call of the library", bare, "\\b[A-Z]\\w*\\.\\w+\\(", "(Math\\.(max|min|abs|floorDiv)|Integer\\.bitCount)\\(");
+        known("a cast", bare, "\\([\\w\\[\\]]+\\) *[\\w(]", "\\((int|long|double)\\) [\\w(]");
+        known("a loop without a bound in sight", bare, "\\b(for|while|do)\\b[^{]*\\{",
+                "for \\(int \\w+ = [^;]*; \\w+ (<|<=|>|>=) [^;]*; \\w+(\\+\\+|--)\\) \\{"
+                + "|while \\(start < text\\.length && reason == NO_REASON\\) \\{"
+                + "|while \\(i < length && at\\(codes, i\\) != \\) \\{");
+        known("an exception that is not of the document", code, "\\bthrow\\b[^;]*;",
+                "throw new (IndexOutOfBounds|IllegalArgument|IllegalState)Exception\\(\"[^\"]*\"\\);");
+    }
+
+    /** Whatever of the code looks like this is one of those that are known to keep the rules. */
+    private static void known(String what, String code, String like, String ofThese) {
+        Matcher found = Pattern.compile(like).matcher(code);
+        while (found.find()) {
+            due(what + ": " + found.group(), found.group().matches(ofThese));
         }
+    }
+
+    /** Rules 6, 11 and 12: of the methods of the class, and of those of each class inside it. */
+    private static void members(String code) {
+        Matcher inside = Pattern.compile("(?ms)^    private static final class \\w+ \\{.*?^    \\}").matcher(code);
+        while (inside.find()) {
+            membersAt("        ", inside.group());
+        }
+        membersAt("    ", inside.replaceAll(""));
+    }
+
+    private static void membersAt(String indent, String code) {
+        Matcher member = Pattern.compile("(?ms)^" + indent + "(?! )(?:(?:public|private|static) )*([\\w\\[\\]]+ )?(\\w+)"
+                + "\\(([^)]*)\\)[^{;]*\\{(.*?)^" + indent + "\\}").matcher(code);
+        int seen = 0;
+        while (member.find()) {
+            seen++;
+            String name = member.group(2);
+            String body = member.group(4);
+            boolean isConstructor = member.group(1) == null;
+            due(name + " is long", body.lines().count() <= 60);
+            due(name + " takes many arguments", member.group(3).split(",").length <= 7);
+            due(name + " throws in a constructor", !isConstructor || !body.contains("throw"));
+            due(name + " makes an object", isConstructor || !Pattern.compile("(?<!throw )\\bnew\\b").matcher(body).find());
+        }
+        due("members of " + code.lines().filter(line -> !line.isBlank()).findFirst().orElse(""), seen > 0);
     }
 }
